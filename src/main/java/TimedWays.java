@@ -664,12 +664,17 @@ public final class TimedWays {
             int arrives = net.board.leaves[place] + net.rides.takes[ride];
             int best = Math.min(NEVER, arrives + net.walks.anyNumber(stop, to));
             for (int i = place + 1; i < net.board.count && net.board.leaves[i] < best; i++) {
-                int leaving = net.rides.from[net.board.rideAt(i)];
-                if (net.board.leaves[i] >= arrives + net.gap(stop, leaving)) {
-                    best = Math.min(best, onward[i]);
+                if (onward[i] < best && mayFollow(net, i, stop, arrives)) {
+                    best = onward[i];
                 }
             }
             return best;
+        }
+
+        /** Whether the departure at a place may be taken, with walks before it or not, after an arrival by ride. */
+        private static boolean mayFollow(Network net, int place, int stop, int arrives) {
+            int leaving = net.rides.from[net.board.rideAt(place)];
+            return net.board.leaves[place] >= arrives + net.gap(stop, leaving);
         }
     }
 

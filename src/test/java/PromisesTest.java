@@ -236,6 +236,33 @@ public final class PromisesTest {
         late.late(0, 6, 300);
         DUE.is("what leaves behind the last time", late.latest(0, 1, 10380), 10079);
         DUE.is("never is not early", late.latest(1, 0, 20000), NONE);
+        changesCountBehindADeparture();
+    }
+
+    /** Of three rides on to stop 2, those that leave within the change of 4 minutes may not be taken. */
+    private static void changesCountBehindADeparture() {
+        TimedWays x = withStops(0, 4, 0);
+        x.ride(0, 1, 10, 10, 1);
+        x.ride(1, 2, 19, 5, 1);
+        x.ride(1, 2, 23, 5, 1);
+        DUE.is("too short a change: earliest", x.earliest(0, 2, 0), NONE);
+        DUE.is("too short a change: latest", x.latest(0, 2, 20000), NONE);
+        DUE.is("too short a change: fewest", x.fewest(0, 2, 0, 20000), NONE);
+        DUE.is("too short a change: fastest", x.fastest(0, 2, 0, 600), NONE);
+        DUE.is("too short a change: profile", x.profile(0, 2, 0, 600), 1);
+        DUE.is("too short a change: reach", x.reach(0, 0, 20000), 3);
+        DUE.is("too short a change: way", x.way(0, 2, 0), NONE);
+        x.ride(1, 2, 24, 5, 1);
+        DUE.is("long enough: earliest", x.earliest(0, 2, 0), 29);
+        DUE.is("long enough: latest", x.latest(0, 2, 29), 10);
+        DUE.is("long enough: fewest", x.fewest(0, 2, 0, 29), 2);
+        DUE.is("long enough: fastest", x.fastest(0, 2, 0, 600), 19);
+        DUE.is("long enough: profile", x.profile(0, 2, 0, 600), 2);
+        steps("long enough", x, new int[] {0, 29}, new int[] {11, NONE});
+        DUE.is("long enough: way", x.way(0, 2, 0), 2);
+        acts("long enough", x, new int[] {1, 0, 0, 10, 20}, new int[] {1, 3, 0, 24, 29});
+        x.walk(2, 0, 7);
+        DUE.is("walking on behind a ride", x.earliest(1, 0, 24), 36);
     }
 
     private static void promise10Fewest() {
