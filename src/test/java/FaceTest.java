@@ -7,6 +7,7 @@ import java.nio.file.Path;
 import java.util.Arrays;
 import java.util.Map;
 import java.util.TreeMap;
+import java.util.regex.Matcher;
 import java.util.regex.Pattern;
 
 /** The document's public face and no more, and the words that LANGUAGE.md rules out. Run at the root of the project. */
@@ -60,9 +61,66 @@ public final class FaceTest {
         }
     }
 
-    private static void wordsAreAllowed() throws IOException {
+    /** Rules 1, 2, 5 and 11 of LANGUAGE.md, of the class and those inside it. */
+    private static void classesKeepToTheRules() {
+        Class<?>[] inside = TimedWays.class.getDeclaredClasses();
+        DUE.is("some twelve classes at most", inside.length + 1 <= 12 ? 1 : 0, 1);
+        classKeepsToTheRules(TimedWays.class);
+        for (Class<?> each : inside) {
+            DUE.is(each + " is within one level", each.getDeclaredClasses().length, 0);
+            classKeepsToTheRules(each);
+            for (Method method : each.getDeclaredMethods()) {
+                boolean named = Modifier.isPrivate(method.getModifiers()) && face().containsKey(method.getName());
+                DUE.is(method + " bears the name of a public one", named ? 1 : 0, 0);
+            }
+        }
+    }
+
+    private static void classKeepsToTheRules(Class<?> each) {
+        int fields = 0;
+        for (Field field : each.getDeclaredFields()) {
+            if (!Modifier.isStatic(field.getModifiers())) {
+                fields++;
+                continue;
+            }
+            boolean constant = Modifier.isFinal(field.getModifiers()) && field.getType().isPrimitive();
+            DUE.is(field + " is a constant", constant ? 1 : 0, 1);
+        }
+        DUE.is(each + " has some twenty fields at most", fields <= 20 ? 1 : 0, 1);
+        for (Method method : each.getDeclaredMethods()) {
+            DUE.is(method + " has seven parameters at most", method.getParameterCount() <= 7 ? 1 : 0, 1);
+        }
+    }
+
+    /** Rule 4: what is called of the library is what the rules list. */
+    private static void libraryIsAllowed() throws IOException {
+        Matcher matcher = Pattern.compile("\\b(Math|Arrays|System|Integer|Long|String|List)\\.(\\w+)").matcher(code());
+        while (matcher.find()) {
+            String called = matcher.group();
+            boolean allowed = Arrays.asList("Math.min", "Math.max", "Arrays.fill", "System.arraycopy").contains(called);
+            DUE.is("the source calls " + called, allowed ? 0 : 1, 0);
+        }
+    }
+
+    /** Rule 11: a method's lines are those from its head, four or eight blanks in, to its closing brace. */
+    private static void methodsAreShort() throws IOException {
+        Matcher matcher = Pattern.compile("(?m)^( {4}| {8})(?! )[^\n]*\\) \\{\n(?s:.*?)^\\1\\}$").matcher(code());
+        int methods = 0;
+        while (matcher.find()) {
+            methods++;
+            String method = matcher.group();
+            DUE.is(method.trim().split("\n")[0] + " is short", method.split("\n").length <= 60 ? 1 : 0, 1);
+        }
+        DUE.is("methods were found", methods > 50 ? 1 : 0, 1);
+    }
+
+    private static String code() throws IOException {
         String source = Files.readString(Path.of("src/main/java/TimedWays.java"));
-        String code = source.replaceAll("(?s)/\\*.*?\\*/", " ").replaceAll("//[^\n]*", " ");
+        return source.replaceAll("(?s)/\\*.*?\\*/", " ").replaceAll("//[^\n]*", " ");
+    }
+
+    private static void wordsAreAllowed() throws IOException {
+        String code = code();
         for (String word : FORBIDDEN) {
             boolean isWord = Character.isLetter(word.charAt(0)) && word.matches("\\w+") && !word.equals("Exact");
             Pattern pattern = Pattern.compile(isWord ? "\\b" + word + "\\b" : word);
@@ -73,7 +131,10 @@ public final class FaceTest {
     public static void main(String[] args) throws IOException {
         methodsAreTheFace();
         fieldsAreTheFace();
+        classesKeepToTheRules();
         wordsAreAllowed();
+        libraryIsAllowed();
+        methodsAreShort();
         DUE.end();
     }
 }

@@ -1,4 +1,3 @@
-import java.util.Arrays;
 import java.util.Random;
 
 /** Runs of up to 512 calls that a fixed seed makes, each answer held against the reference's. */
@@ -94,58 +93,12 @@ public final class ReferenceTest {
         return random.nextInt(3) == 0 ? -1 : number(random.nextBoolean() ? 301 : 8);
     }
 
-    private int ofProgram(String call, int[] a) {
-        switch (call) {
-            case "clear": return program.clear();
-            case "stop": return program.stop(a[0]);
-            case "change": return program.change(a[0], a[1]);
-            case "ride": return program.ride(a[0], a[1], a[2], a[3], a[4]);
-            case "walk": return program.walk(a[0], a[1], a[2]);
-            case "late": return program.late(a[0], a[1], a[2]);
-            case "earliest": return program.earliest(a[0], a[1], a[2]);
-            case "latest": return program.latest(a[0], a[1], a[2]);
-            case "fewest": return program.fewest(a[0], a[1], a[2], a[3]);
-            case "fastest": return program.fastest(a[0], a[1], a[2], a[3]);
-            case "profile": return program.profile(a[0], a[1], a[2], a[3]);
-            case "step": return program.step(a[0], a[1]);
-            case "reach": return program.reach(a[0], a[1], a[2]);
-            case "way": return program.way(a[0], a[1], a[2]);
-            case "act": return program.act(a[0], a[1]);
-            case "next": return program.next(a[0], a[1]);
-            case "told": return program.told(a[0], a[1]);
-            default: return program.of(a[0]);
-        }
-    }
-
-    private int ofReference(String call, int[] a) {
-        switch (call) {
-            case "clear": return reference.clear();
-            case "stop": return reference.stop(a[0]);
-            case "change": return reference.change(a[0], a[1]);
-            case "ride": return reference.ride(a[0], a[1], a[2], a[3], a[4]);
-            case "walk": return reference.walk(a[0], a[1], a[2]);
-            case "late": return reference.late(a[0], a[1], a[2]);
-            case "earliest": return reference.earliest(a[0], a[1], a[2]);
-            case "latest": return reference.latest(a[0], a[1], a[2]);
-            case "fewest": return reference.fewest(a[0], a[1], a[2], a[3]);
-            case "fastest": return reference.fastest(a[0], a[1], a[2], a[3]);
-            case "profile": return reference.profile(a[0], a[1], a[2], a[3]);
-            case "step": return reference.step(a[0], a[1]);
-            case "reach": return reference.reach(a[0], a[1], a[2]);
-            case "way": return reference.way(a[0], a[1], a[2]);
-            case "act": return reference.act(a[0], a[1]);
-            case "next": return reference.next(a[0], a[1]);
-            case "told": return reference.told(a[0], a[1]);
-            default: return reference.of(a[0]);
-        }
-    }
-
     private int call(String name, int... a) {
-        String text = name + Arrays.toString(a);
+        String text = Calls.text(name, a);
         calls.append(text).append(' ');
         boolean before = due.hasWrong();
-        int answer = ofProgram(name, a);
-        due.is(text, answer, ofReference(name, a));
+        int answer = Calls.of(program, name, a);
+        due.is(text, answer, Calls.of(reference, name, a));
         if (!before && due.hasWrong()) System.out.println(calls);
         return answer;
     }
