@@ -326,6 +326,66 @@ public final class EdgesTest {
         steps("both are steps of one profile", x, row(4, 19), row(5, 20), row(11, 26));
     }
 
+    /** "the first DEPARTURE, in order, that ARRIVES at x then, GOES, and may be taken". */
+    private static void termsTheFirstThatMayBeTaken() {
+        TimedWays x = withStops(3, 5);
+        x.ride(1, 2, 24, 16, 1);
+        x.ride(1, 2, 25, 15, 1);
+        x.ride(0, 1, 10, 10, 1);
+        DUE.is("the change is a minute too long for the first", x.way(0, 2, 0), 2);
+        acts("the change is a minute too long for the first", x, row(1, 2, 0, 10, 20), row(1, 1, 0, 25, 40));
+        x.walk(0, 1, 24);
+        DUE.is("by walk in time for the first", x.way(0, 2, 0), 2);
+        acts("by walk in time for the first", x, row(0, 0, NONE, 0, 24), row(1, 0, 0, 24, 40));
+        DUE.is("by walk in time for the second", x.way(0, 2, 1), 2);
+        acts("by walk in time for the second", x, row(0, 0, NONE, 1, 25), row(1, 1, 0, 25, 40));
+        DUE.is("by walk a minute late, so by ride", x.way(0, 2, 2), 2);
+        acts("by walk a minute late, so by ride", x, row(1, 2, 0, 10, 20), row(1, 1, 0, 25, 40));
+    }
+
+    /** NONE is no lateness of -1, with which the first one would arrive then. */
+    private static void termsTheFirstThatGoes() {
+        TimedWays x = withStops(2, 0);
+        x.ride(0, 1, 11, 10, 1);
+        x.ride(0, 1, 10, 10, 1);
+        x.late(0, 0, NONE);
+        DUE.is("the first does not go", x.way(0, 1, 0), 1);
+        acts("the first does not go", x, row(1, 1, 0, 10, 20));
+        DUE.is("the first does not go, a minute later", x.earliest(0, 1, 11), NONE);
+        DUE.is("the first does not go, next", x.next(0, 0), 7);
+    }
+
+    /** "DEPARTURES are in order by RIDES, then by DAYS": behind a ride's day 6 comes another ride's day 0. */
+    private static void termsDaysOfOneRideAlone() {
+        TimedWays x = withStops(3, 0);
+        x.ride(0, 1, 50, 10, LAST_DAY);
+        x.ride(0, 2, 10, 99, 1);
+        x.ride(0, 1, 5, 15, 1);
+        DUE.is("the other ride's day 0", x.way(0, 1, 0), 1);
+        acts("the other ride's day 0", x, row(1, 2, 0, 5, 20));
+        DUE.is("the ride's own last day", x.way(0, 1, 6), 1);
+        acts("the ride's own last day", x, row(1, 0, 6, 8690, 8700));
+        DUE.is("its departure", x.next(0, 11), 6);
+        DUE.is("its going days", x.told(0, 5), LAST_DAY);
+    }
+
+    /** "the WALK with the least number .. so that THE ARRIVAL of y and what it takes are BY WALK of x". */
+    private static void termsTheWalkWithTheLeastNumber() {
+        TimedWays x = withStops(3, 0);
+        x.walk(2, 1, 6);
+        x.walk(0, 1, 10);
+        x.walk(0, 1, 10);
+        x.walk(0, 2, 5);
+        DUE.is("the least number is a minute too slow", x.way(0, 1, 0), 1);
+        acts("the least number is a minute too slow", x, row(0, 1, NONE, 0, 10));
+        x.walk(0, 2, 4);
+        DUE.is("the least number", x.way(0, 1, 0), 2);
+        acts("the least number", x, row(0, 4, NONE, 0, 4), row(0, 0, NONE, 4, 10));
+        x.ride(1, 2, 10, 1, 1);
+        x.walk(2, 0, 3);
+        DUE.is("to stop 0, walking behind a ride", x.earliest(1, 0, 10), 14);
+    }
+
     /** "No STOPS, RIDES, WALKS; nothing is told." */
     private static void promise1NewObject() {
         TimedWays x = new TimedWays();
@@ -803,6 +863,10 @@ public final class EdgesTest {
         termsTheLatestEndOfAll();
         termsTheMostActs();
         termsWalkAndRideAtOneTime();
+        termsTheFirstThatMayBeTaken();
+        termsTheFirstThatGoes();
+        termsDaysOfOneRideAlone();
+        termsTheWalkWithTheLeastNumber();
     }
 
     private static void promises() {
