@@ -114,6 +114,14 @@ public final class FaceTest {
         DUE.is("methods were found", methods > 50 ? 1 : 0, 1);
     }
 
+    /** Rule 12: only constructors, whose heads bear no type, make objects and rows; so no call makes any. */
+    private static void constructorsAloneMakeObjects() throws IOException {
+        String withoutConstructors =
+            code().replaceAll("(?ms)^( {4}| {8})(?:public )?[A-Z]\\w*\\([^)]*\\) \\{\n.*?^\\1\\}$", "");
+        DUE.is("the source has new in constructors", code().contains("new int[") ? 1 : 0, 1);
+        DUE.is("the source has new elsewhere", Pattern.compile("\\bnew\\b").matcher(withoutConstructors).find() ? 1 : 0, 0);
+    }
+
     private static String code() throws IOException {
         String source = Files.readString(Path.of("src/main/java/TimedWays.java"));
         return source.replaceAll("(?s)/\\*.*?\\*/", " ").replaceAll("//[^\n]*", " ");
@@ -135,6 +143,7 @@ public final class FaceTest {
         wordsAreAllowed();
         libraryIsAllowed();
         methodsAreShort();
+        constructorsAloneMakeObjects();
         DUE.end();
     }
 }
